@@ -768,7 +768,7 @@ public final class PanelCopies {
             return fault == 0 && kinds[at] != END;
         }
 
-        /** Only the first FAULT counts: behind it no token is what a reader wants, so readers stop by themselves. */
+        /** Only the first FAULT counts: behind it no token is what a reader wants, so that all readers stop. */
         void fail(int faultKind) {
             if (fault == 0) {
                 fault = faultKind + 16 * places[at];
@@ -780,7 +780,8 @@ public final class PanelCopies {
         }
 
         boolean isAt(Word wanted) {
-            return fault == 0 && kinds[at] == (wanted.reserved ? RESERVED : NAME) && values[at] == wanted.packed;
+            boolean isWord = kinds[at] == NAME || kinds[at] == RESERVED;
+            return fault == 0 && isWord && values[at] == wanted.packed;
         }
 
         boolean isName() {
@@ -811,11 +812,19 @@ public final class PanelCopies {
         }
 
         void need(char wanted) {
-            stepOrFail(isAt(wanted), FAULT_STRAY);
+            if (isAt(wanted)) {
+                step();
+            } else {
+                fail(FAULT_STRAY);
+            }
         }
 
         void need(Word wanted) {
-            stepOrFail(isAt(wanted), FAULT_STRAY);
+            if (isAt(wanted)) {
+                step();
+            } else {
+                fail(FAULT_STRAY);
+            }
         }
 
         void stepOrFail(boolean stands, int faultKind) {
@@ -1520,7 +1529,10 @@ public final class PanelCopies {
 
         int worthOf(Gallery told, int piece) {
             int slips = slipsOn(piece);
-            int value = told.worth == null ? 100 - slips * 10 - piece : told.worth.value(slips, piece, hung[piece]);
+            int value = 100 - slips * 10 - piece;
+            if (told.worth != null) {
+                value = told.worth.value(slips, piece, hung[piece]);
+            }
             return Math.max(0, Math.min(MOST_WORTH, value));
         }
 
