@@ -1604,6 +1604,7 @@ public final class PanelCopies {
     /** All trees of some PIECES, as rows, the first row first. */
     private static final class Trees {
         static final int MOST = 6;
+        private static final int ABOVE_ALL_SUMS = 1000;
 
         private final int[] members = new int[MOST];
         private final int[] row = new int[MOST];
@@ -1620,7 +1621,7 @@ public final class PanelCopies {
                     size++;
                 }
             }
-            least = Integer.MAX_VALUE;
+            least = ABOVE_ALL_SUMS;
             found = 0;
             join(hall, 1, 0);
         }
