@@ -357,6 +357,15 @@ public final class PromisesTest {
         }
         worth(longest.toString(), 201);
         worth("1 and 1 < 1 + 1 * (1 and 1 < 1 + 1 * (1 and 1 < 1 + 1 * (1 and 1 < 1 + 1 * (0 or 1 < 1 + 2 * 3))))", 1);
+        StringBuilder full = new StringBuilder("worth 1");
+        for (int i = 0; i < 496; i++) {
+            full.append("+1");
+        }
+        PanelCopies most = told(full + ";");
+        due(5, "a law of 1000 signs", most.piece(0, 4), 497);
+        feed(most, full + "+1;");
+        due(2, "a law of 1002 signs", most.count(11), 1000);
+        due(3, "its end is missing", most.gallery(), 1 + 16 * 1000);
         PanelCopies x = told(ALL + "worth hung * 100 + age;");
         x.night();
         x.night();
@@ -871,6 +880,7 @@ public final class PromisesTest {
         due(32, "what", x.years(0, 1, 3), NONE);
         due(32, "what", x.years(0, 1, -1), NONE);
         due(32, "the most", x.years(9999, 60, 1) >= 17, true);
+        due(32, "the least", x.years(0, 1, 1) >= 17, true);
         // Seed 1: 1103527590 tells 16838: who is 16838 % 4 = 2, the boy; 377401575 tells 5758: 2, a theft he can't.
         due(32, "a boy can't", x.years(1, 1, 0), 0);
         // Then 662824084 tells 10113: bob; 1147902781 tells 17515: 3, a theft; PIECE 2, off in 2, hangs.
