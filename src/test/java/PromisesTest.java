@@ -1,9 +1,5 @@
 /** Each promise by hand: ordinary inputs, the edges that the document names, and wrong inputs. */
-public final class PromisesTest {
-    private static final int NONE = PanelCopies.NONE;
-    private static int wrong = 0;
-    private static int asked = 0;
-
+public final class PromisesTest extends Asked {
     private static final String SPOTS = "spot hand; spot blue; spot nose;";
     private static final String THIEVES =
         "thief ann plain skill 5 coins 10 at 1 2; thief bob restorer skill 9 coins 0 at 2;"
@@ -41,45 +37,7 @@ public final class PromisesTest {
         chances();
         years();
         marks();
-        System.out.println(asked + " answers asked, " + wrong + " wrong");
-        if (wrong != 0) {
-            System.exit(1);
-        }
-    }
-
-    private static void due(int promise, String call, long got, long want) {
-        asked++;
-        if (got != want) {
-            wrong++;
-            System.out.println("promise " + promise + ": " + call + " answered " + got + ", due is " + want);
-        }
-    }
-
-    private static void due(int promise, String call, boolean got, boolean want) {
-        due(promise, call, got ? 1 : 0, want ? 1 : 0);
-    }
-
-    private static long bytes(String text, int from) {
-        long value = 0;
-        for (int i = from; i < from + 8; i++) {
-            value = value << 8 | (i < text.length() ? text.charAt(i) & 255 : 0);
-        }
-        return value;
-    }
-
-    private static int feed(PanelCopies x, String text) {
-        int answer = x.count(11);
-        for (int i = 0; i < text.length(); i += 24) {
-            answer = x.feed(bytes(text, i), bytes(text, i + 8), bytes(text, i + 16));
-        }
-        return answer;
-    }
-
-    private static PanelCopies told(String text) {
-        PanelCopies x = new PanelCopies();
-        feed(x, text);
-        due(3, "gallery() of " + text, x.gallery(), 0);
-        return x;
+        endTest();
     }
 
     private static void newObject() {
