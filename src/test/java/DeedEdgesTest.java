@@ -624,6 +624,7 @@ public final class DeedEdgesTest extends Asked {
             x.sell(PLAIN, 1);
             x.guard(9);
             x.look(1, true);
+            x.look(0, false);
             String before = brief(x);
             due(33, "laid", x.mark(mark, false), true);
             due(34, "what can be undone stays", x.count(10), 4);
@@ -635,10 +636,11 @@ public final class DeedEdgesTest extends Asked {
             x.night();
             x.night();
             x.look(0, true);
+            x.look(2, false);
             due(33, "gone back to", x.mark(mark, true), true);
             same(33, "as it was", brief(x), before);
-            due(34, "LOOKS", x.count(9), 1);
-            due(21, "FITS by them", x.fits(), 4 | 8);
+            due(34, "LOOKS", x.count(9), 2);
+            due(21, "FITS by them", x.fits(), 8);
             due(34, "nothing can be undone", x.count(10), 0);
             due(13, "nothing is undone", x.undo(), false);
             same(33, "as it was", brief(x), before);

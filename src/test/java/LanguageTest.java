@@ -60,6 +60,7 @@ public final class LanguageTest {
             }
         }
         need(open.equals(new TreeSet<>(FACE)), "1: the face is " + open);
+        need(declared().equals("rests java.util.NoSuchElementException"), "6: declared exceptions: " + declared());
         need(Modifier.isFinal(PanelCopies.class.getModifiers()), "1: the class is not final");
         Constructor<?>[] constructors = PanelCopies.class.getDeclaredConstructors();
         need(constructors.length == 1 && Modifier.isPublic(constructors[0].getModifiers()), "1: constructors");
@@ -76,6 +77,16 @@ public final class LanguageTest {
             boolean hidden = Modifier.isPrivate(method.getModifiers()) && names.contains(method.getName());
             need(!hidden, "1: named as a public one: " + method);
         }
+    }
+
+    private static String declared() {
+        List<String> all = new ArrayList<>();
+        for (Method method : PanelCopies.class.getDeclaredMethods()) {
+            for (Class<?> thrown : method.getExceptionTypes()) {
+                all.add(method.getName() + " " + thrown.getName());
+            }
+        }
+        return String.join(", ", all);
     }
 
     private static void insides() {

@@ -37,6 +37,7 @@ public final class QuestionEdgesTest extends Asked {
         chances();
         chancesRefused();
         yearsBounds();
+        yearsDraws();
         yearsDeeds();
         yearsNights();
         yearsThatCannotBe();
@@ -291,6 +292,17 @@ public final class QuestionEdgesTest extends Asked {
         due(21, "whichever hangs", x.fits(), 2);
         x.look(2, true);
         due(21, "none", x.fits(), 0);
+        PanelCopies all = told(SPOTS + BOY + "copy of 0 slip sa with t; copy of 1 slip sb with t; copy of 2 slip sc with t;"
+            + "copy of 3 slip sa with t;");
+        all.look(0, true);
+        all.look(1, true);
+        due(21, "two are off: 2 and 3", all.fits(), 12);
+        all.look(2, true);
+        due(21, "all are off: 3", all.fits(), 8);
+        PanelCopies right = told(SPOTS + BOY + "copy of 0 slip sa with t; copy of 1 slip sb with t; copy of 0 slip sb with t;");
+        right.look(1, false);
+        right.look(0, false);
+        due(21, "neither is off: 0", right.fits(), 1);
         PanelCopies full = told(TWO_LOOKS);
         due(21, "eight", full.fits(), 255);
         full.look(0, true);
@@ -602,6 +614,10 @@ public final class QuestionEdgesTest extends Asked {
         few.guard(22);
         few.guard(0);
         due(30, "guards are no matter", few.watch(0), 1 << 23 | 1 << 22);
+        // With 10 for three of them both 3 and 5 see the fourth.
+        PanelCopies late = told("thief a plain skill 0 coins 0 at 5 10; thief b plain skill 0 coins 0 at 3 10;"
+            + "thief c plain skill 0 coins 0 at 10; thief d plain skill 0 coins 0 at 5 3;");
+        due(30, "3 and 10 are less than 5 and 10", late.watch(0), 1 << 10 | 1 << 3);
         PanelCopies one = told(named(5, "thief t% plain skill 0 coins 0 at 9 2 17;"));
         due(30, "one hour for all, the least", one.watch(0), 4);
         due(30, "one hour for one of them, too", one.watch(4), 4);
@@ -681,17 +697,17 @@ public final class QuestionEdgesTest extends Asked {
     }
 
     /**
-     * The first SEED by which the only THIEF does these, night by night: P paints with a slip in the second of two
-     * SPOTS, S sells, T steals by a DRAW of 2, U by one of 3.
+     * The first SEED by which the only THIEF does these, night by night: P paints with a slip in the last SPOT,
+     * S sells, T steals by a DRAW of 2, U by one of 3.
      */
-    private static int seedOf(String deeds) {
+    private static int seedOf(String deeds, int spots) {
         for (int seed = 0; seed <= 9999; seed++) {
             Draws draws = new Draws(seed);
             boolean so = true;
             for (int i = 0; i < deeds.length() && so; i++) {
                 draws.below(1);
                 int deed = draws.below(4);
-                so = "PSTU".charAt(deed) == deeds.charAt(i) && (deed != 0 || draws.below(2) == 1);
+                so = "PSTU".charAt(deed) == deeds.charAt(i) && (deed != 0 || draws.below(spots) == spots - 1);
             }
             if (so) {
                 return seed;
@@ -701,7 +717,7 @@ public final class QuestionEdgesTest extends Asked {
     }
 
     private static int years(PanelCopies x, String deeds, int what) {
-        return x.years(seedOf(deeds), deeds.length(), what);
+        return x.years(seedOf(deeds, x.count(0)), deeds.length(), what);
     }
 
     private static void yearsBounds() {
@@ -739,6 +755,20 @@ public final class QuestionEdgesTest extends Asked {
         }
     }
 
+    private static void yearsDraws() {
+        says("A DRAW below m: g becomes (g * 1103515245 + 12345) modulo 2147483648 (g is the SEED at first); it is g / 65536, cut,"
+            + " modulo m.");
+        // SEED 0: 12345; 1406932606; 654583775 tell 0: t; 21468: 0, he paints; 9988: in the first SPOT.
+        // 1449466924; 229283573 tell 22117: t; 3498: 2, he steals. 1109335178; 1051550459: t; 16045: 1, he sells.
+        PanelCopies x = told(ONE_THIEF);
+        due(32, "PIECE 4 is a copy of 1, right again", x.years(0, 1, 0) * 10 + x.years(0, 1, 2), 0);
+        due(32, "a theft", x.years(0, 2, 0), 1);
+        due(32, "PIECE 1 hangs", x.years(0, 2, 2), 1);
+        due(32, "no sale yet", x.years(0, 2, 1), 5);
+        due(32, "PIECE 4 is sold", x.years(0, 3, 1), 5 + 4);
+        due(32, "no theft more", x.years(0, 3, 0), 1);
+    }
+
     private static final String ONE_THIEF = "spot sa; spot sb; thief t bold skill 99 coins 5 at 3;"
         + "copy of 0 slip sa with t; copy of 1 slip sb with t; copy of 0 slip sb with t; worth slips * 100 + age;";
 
@@ -763,6 +793,11 @@ public final class QuestionEdgesTest extends Asked {
         due(32, "what he stole is the least he has", years(x, "TSS", 1), 5 + 103 + 202);
         due(32, "what he stole is sold at last", years(x, "TSSS", 1), 5 + 103 + 202);
         due(32, "copies of what he stole", years(x, "TPS", 1), 5 + 104);
+        PanelCopies one = told("spot a; thief t bold skill 9 coins 5 at 3; copy of 0 slip a with t; worth slips * 100 + age;");
+        due(32, "of one SPOT a DRAW is made too: 2 is sold, then 1", years(one, "PSS", 1), 5 + 2 + 101);
+        PanelCopies eight = told(named(8, "spot s%;") + "thief t bold skill 9 coins 5 at 3; copy of 0 slip sh with t;"
+            + "worth slips * 100 + age;");
+        due(32, "the last of eight SPOTS", years(eight, "PS", 1), 5 + 2);
         PanelCopies boy = told(ONE_THIEF.replace("t bold", "t boy"));
         due(32, "a boy paints what hangs: one slip", years(boy, "PS", 1), 5 + 104);
         due(32, "a boy can't steal", years(boy, "TU", 0), 0);

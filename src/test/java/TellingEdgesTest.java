@@ -44,6 +44,7 @@ public final class TellingEdgesTest extends Asked {
         standingElsewhere();
         allStays();
         anew();
+        nothingIsLeft();
         atFirst();
         endTest();
     }
@@ -115,6 +116,9 @@ public final class TellingEdgesTest extends Asked {
         due(3, "spo can't stand there", x.gallery(), 1 + 16 * 997);
         due(2, "behind it there is room again", feed(x, "spot a;"), 7);
         due(3, "and it is read", x.gallery(), 0);
+        due(3, "a NUMBER up to the last sign", galleryOf(filled(993), "worth 1"), 1 + 16 * 1000);
+        due(3, "a WORD up to the last sign", galleryOf(filled(994), "spot a"), 1 + 16 * 1000);
+        due(3, "a line up to the last sign", galleryOf(filled(993), "spot a;"), 0);
         says("Up to 24 signs come behind the TAPE");
         due(2, "24", x.feed(0x2121212121212121L, 0x2121212121212121L, 0x2121212121212121L), 24);
         due(2, "24 more", x.feed(0x2121212121212121L, 0x2121212121212121L, 0x2121212121212121L), 48);
@@ -149,6 +153,12 @@ public final class TellingEdgesTest extends Asked {
         for (String text : new String[] {TWO_PAST, "guard 24;", "guard", "  ", ""}) {
             nightsOf(x, text);
             due(4, "signs behind nights() of " + text, x.count(11), 0);
+        }
+        for (String text : new String[] {"worth 1111111;", "worth aaaaaaa;"}) {
+            galleryOf(x, text);
+            due(3, "what was taken is not behind a NUMBER", galleryOf(x, "worth 1"), 1 + 16 * 7);
+            galleryOf(x, text);
+            due(3, "what was taken is not behind a WORD", galleryOf(x, "worth age"), 1 + 16 * 9);
         }
         due(2, "the next signs are the first ones", feed(x, "spot"), 4);
         due(4, "nights() of a GALLERY", x.nights(), 1);
@@ -221,6 +231,13 @@ public final class TellingEdgesTest extends Asked {
         wrongGallery(1, "worth 1^x;");
         wrongGallery(1, "spot a^1;");
         wrongGallery(1, "worth ^12345and 1;");
+        // A NUMBER is no WORD, though a WORD's letters may be kept as such a number.
+        wrongGallery(1, "thief a ^2553 skill 0 coins 0 at 0;");
+        wrongGallery(1, "thief a boy skill 0 coins 0 ^52 0;");
+        wrongGallery(1, BASE + "copy ^486 0 slip aa with cc;");
+        wrongGallery(1, "worth 1 ^1476 1;");
+        wrongGallery(1, "worth 1 ^498 1;");
+        due(5, "nor a fact", told("worth 1253 - 1000;").piece(0, 4), 253);
         says("(a longer WORD or NUMBER, too, at its first sign) is none");
         wrongGallery(1, "thief a boy skill ^00001 coins 0 at 0;");
         wrongGallery(1, "thief a boy skill 0 coins ^10000 at 0;");
@@ -717,6 +734,14 @@ public final class TellingEdgesTest extends Asked {
         worth("0 - 4 < 0 - 3", 1);
         worth("3 = 3", 1);
         worth("3 = 4", 0);
+        // Less than 0 is worth 0 as well, so that 10 tells what comes.
+        worth("10 + not 5", 10);
+        worth("10 + (5 and 0)", 10);
+        worth("10 + (0 and 5)", 10);
+        worth("10 + (0 or 0)", 10);
+        worth("10 + (3 < 3)", 10);
+        worth("10 + (3 = 4)", 10);
+        worth("10 + not 0 + (5 and 7) + (0 or 9) + (2 < 3) + (3 = 3)", 15);
         // 9999 * 9999 * 21 + 9999 * 4790 + 8416 is 2147483647, the greatest int.
         String most = "9999 * 9999 * 21 + 9999 * 4790 + 8416";
         worth("0 < " + most, 1);
@@ -853,6 +878,8 @@ public final class TellingEdgesTest extends Asked {
         x.paint(1, 2, 0);
         x.guard(5);
         x.look(1, false);
+        x.look(0, false);
+        x.look(2, true);
         x.mark(2, false);
         return x;
     }
@@ -894,6 +921,25 @@ public final class TellingEdgesTest extends Asked {
             due(33, "no MARK " + mark, x.mark(mark, true), false);
         }
         due(4, "a NAME of before", nightsOf(x, "steal bo 0;"), 2 + 16 * 6);
+    }
+
+    /** A text with a FAULT at its very end has filled all there is to fill. */
+    private static void nothingIsLeft() {
+        says("The TAPE is read as a GALLERY: 0, or its FAULT (all stays then).");
+        String full = EIGHT_SPOTS + named(5, "thief t% bold skill 9 coins 7 at 4;") + times(7, "copy of 0 slip sh with te;")
+            + named(4, "expert e% sees sa;") + "worth 5; hard 6;";
+        String small = "spot sa; thief ta plain skill 1 coins 2 at 3; copy of 0 slip sa with ta; expert ea sees sa;";
+        String want = state(told(small));
+        PanelCopies x = new PanelCopies();
+        due(3, "a FAULT", galleryOf(x, full + "!"), 1 + 16 * full.length());
+        due(3, "gallery()", galleryOf(x, small), 0);
+        same(3, "nothing is left of a text with a FAULT", state(x), want);
+        PanelCopies y = told(full);
+        due(3, "gallery()", galleryOf(y, small), 0);
+        due(3, "gallery()", galleryOf(y, small), 0);
+        same(3, "nothing is left of the GALLERY before", state(y), want);
+        due(3, "an empty GALLERY", galleryOf(y, ""), 0);
+        same(3, "nothing is left of it", state(y), state(new PanelCopies()));
     }
 
     private static void atFirst() {
